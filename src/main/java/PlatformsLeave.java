@@ -39,7 +39,7 @@ public final class PlatformsLeave {
         clues = new Clues();
         run = new Run(line);
         rider = new Rider(run);
-        text.put(OPENING);
+        text.addAll(OPENING);
         text.readInto(line);
         text.length = 0;
     }
@@ -287,7 +287,8 @@ public final class PlatformsLeave {
 
     /**
      * The fewest cells, as bits, that keep all from waiting if they are passing places besides. Up to
-     * the first wait all go as they would with any more of them, so it must be its cell each time.
+     * the first wait all go as they would with any more of them, so it must be its cell each time;
+     * where that is one already, it stays the first wait to the end.
      */
     private int fewestPlaces() {
         int besides = 0;
@@ -296,7 +297,6 @@ public final class PlatformsLeave {
             run.setting.passing |= besides;
             run.goTo(LAST_STEP);
             if (run.waits == 0) return besides;
-            if (bit(run.setting.passing, run.firstFull) == 1) return NONE;
             besides |= 1 << run.firstFull;
         }
         return NONE;
@@ -463,8 +463,7 @@ public final class PlatformsLeave {
             return true;
         }
 
-        void put(String all) {
-            length = 0;
+        void addAll(String all) {
             for (int i = 0; i < all.length(); i++) add(all.charAt(i));
         }
 

@@ -51,9 +51,26 @@ public final class CameTest {
         x.came(0, 60, true);
         Due.is("and in step 60", x.fits(0), 0);
         Due.is("its own start stays", x.platform(0, 3), 0);
+        severalTrains();
         someOther();
         int[] bad = {-1, 1, Integer.MAX_VALUE, Integer.MIN_VALUE};
         for (int p : bad) Due.is("bad fits", x.fits(p), BAD);
+    }
+
+    private static void severalTrains() {
+        PlatformsLeave x = Due.laid("n10;t3;t1;t5;p0,0,0,0;");
+        x.came(1, 1, true);
+        Due.is("in step 1 at train 1", x.fits(0), 0b11);
+        x.came(2, 1, false);
+        x.came(2, 5, true);
+        Due.is("in step 5 at train 2", x.fits(0), 0b11);
+        x.came(0, 5, true);
+        Due.is("not at train 0 too", x.fits(0), 0);
+        x.forget();
+        x.came(2, 7, true);
+        Due.is("in step 7 at train 2", x.fits(0), 1 << 3);
+        x.came(1, 1, true);
+        Due.is("the earlier one told later", x.fits(0), 0);
     }
 
     private static void someOther() {

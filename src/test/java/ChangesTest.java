@@ -8,6 +8,7 @@ public final class ChangesTest {
         passes();
         undoes();
         undoesEight();
+        undoesMixed();
         keeps();
         Due.end();
     }
@@ -92,6 +93,29 @@ public final class ChangesTest {
         Due.is("no ninth", x.undo(), NO);
         Due.is("the third start", x.platform(0, 3), 2);
         Due.is("not laid", x.cell(1, 0), 0);
+    }
+
+    /** The oldest two are lost; what is left keeps its sort, its place and what was. */
+    private static void undoesMixed() {
+        PlatformsLeave x = new PlatformsLeave();
+        x.start(2, 11);
+        x.hold(1);
+        x.start(3, 12);
+        x.pass(9);
+        x.hold(0);
+        x.start(1, 13);
+        x.pass(6);
+        x.start(3, 14);
+        x.hold(3);
+        x.pass(1);
+        while (x.undo() != NO) { }
+        int[] starts = {0, 0, 11, 1};
+        int[] held = {0, 1, 0, 0};
+        for (int p = 0; p < 4; p++) {
+            Due.is("start then of " + p, x.platform(p, 3), starts[p]);
+            Due.is("held then " + p, x.platform(p, 4), held[p]);
+        }
+        for (int c = 0; c < 12; c++) Due.is("passing then " + c, x.cell(c, 0), c == 6 || c == 11 ? 1 : 0);
     }
 
     private static void keeps() {

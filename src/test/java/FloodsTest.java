@@ -5,6 +5,7 @@ public final class FloodsTest {
     public static void main(String[] args) {
         chances();
         heldOrNot();
+        laterPlatform();
         milkInFlood();
         wrongFloods();
         draws();
@@ -45,6 +46,17 @@ public final class FloodsTest {
         chance(x, 0, 6, 0, 0, 1);
         Due.is("held as before", x.count(4), 2);
         Due.is("held as before", x.where(0, 60, 0), 0);
+    }
+
+    private static void laterPlatform() {
+        PlatformsLeave x = Due.laid("n10;t5;t2;p0,0,0,0;p0,1,0,0;p0,3,0,0;");
+        for (int times = 0; times < 2; times++) {
+            Due.is("above of 2", x.floods(2, 0, 3, 3, 0), 98);
+            Due.is("below of 2", x.floods(2, 0, 3, 3, 1), 125);
+            Due.is("above of 1", x.floods(1, 1, 2, 9, 0), 19);
+            Due.is("below of 1", x.floods(1, 1, 2, 9, 1), 100);
+            x.hold(2);
+        }
     }
 
     private static void milkInFlood() {

@@ -191,6 +191,12 @@ public final class StepsTest {
         hangs("n24;p1,0,0,0;p0,17,0,0;", 1, 0);
         hangs("n10;p0,0,0,0;", 0, 0);
         hangs("n10;p0,5,0,0;p0,0,0,0;p0,2,1,0;p0,7,1,0;p0,6,1,0;", 0, 30);
+        PlatformsLeave x = Due.laid("n10;p0,0,0,0;p0,1,0,0;");
+        Due.is("both go", x.hang(), 0);
+        x.hold(1);
+        Due.is("one goes nowhere at all", x.hang(), 1);
+        x.hold(0);
+        Due.is("both held", x.hang(), 0);
         Due.is("round and round", Due.laid("n4;p4,0,0,0;").hang(), 0);
         Due.is("polite ones", Due.laid("n4;p3,0,0,0;p3,1,0,0;p3,2,0,0;p3,3,0,0;").hang(), 15);
         Due.is("facing", Due.laid("n10;p0,3,0,0;p0,4,1,0;p3,5,0,0;").hang(), 3);

@@ -13,6 +13,7 @@ public final class TextTest {
         many();
         twoInACell();
         firstFault();
+        unfinished();
         laying();
         Due.end();
     }
@@ -153,6 +154,33 @@ public final class TextTest {
         fault("t3;t12;t", 3);
         fault("t3;t4", 3);
         fault("t3;p0,0,0,0;p0,1,0,31;p9,1,0,0;", 12);
+    }
+
+    /** What was written ahead of a wipe does not end an item, nor does the end of the room. */
+    private static void unfinished() {
+        PlatformsLeave x = new PlatformsLeave();
+        Due.tell(x, "t3;a44;p0,0,0,0;");
+        String[] begun = {"t", "t3", "t3;a", "t3;a4", "t3;a44", "t3;a04;p0,0,0", "t3;a04;p0,0,0,"};
+        for (String text : begun) {
+            Due.tell(x, text);
+            Due.is("fault of " + text, x.fault(), text.lastIndexOf(';') + 1);
+        }
+        String almost = "t3;" + "a00;".repeat(49);
+        String[] last = {"p", "1", "t"};
+        for (String letter : last) {
+            Due.tell(x, almost + letter);
+            Due.is("full, fault at the last letter " + letter, x.fault(), 199);
+        }
+        String ahead = "t3;t4;" + "a00;".repeat(48);
+        String[] two = {"t1", "t,", "a1", "p0", "w9"};
+        for (String letters : two) {
+            Due.tell(x, ahead + letters);
+            Due.is("full, fault at the last but one " + letters, x.fault(), 198);
+        }
+        Due.tell(x, "p0,0,0,0;" + "a00;".repeat(47) + "w1;");
+        Due.is("full without fault", x.fault(), NONE);
+        Due.is("and laid", x.lay(), 1);
+        Due.is("full", x.write('t'), FULL);
     }
 
     private static void laying() {

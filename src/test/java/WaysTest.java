@@ -5,6 +5,7 @@ public final class WaysTest {
     public static void main(String[] args) {
         oneWay();
         changing();
+        changingAtOnce();
         oneCell();
         lastStep();
         wrongTrips();
@@ -40,6 +41,16 @@ public final class WaysTest {
         PlatformsLeave fewer = Due.laid("n12;a5;t1;t5;t10;p0,1,0,0;p0,6,1,20;p0,7,0,0;");
         fewer.hold(2);
         trip(fewer, 0, 2, 27, 1);
+    }
+
+    /** Off a platform, and onto another one in the same step. */
+    private static void changingAtOnce() {
+        PlatformsLeave x = Due.laid("n12;a5;t1;t5;t8;p0,5,0,5;p0,1,0,0;");
+        trip(x, 0, 1, 4, 1);
+        trip(x, 0, 2, 7, 2);
+        trip(x, 1, 2, 7, 1);
+        PlatformsLeave none = Due.laid("n12;a5;t1;t4;t8;p0,5,0,5;p0,1,0,0;");
+        trip(none, 0, 2, 8, 1);
     }
 
     private static void oneCell() {
