@@ -80,6 +80,9 @@ public final class FloodsTest {
         Due.is("waits by day 0", x.day(0, 0), 7);
         Due.is("twos by day 0", x.day(0, 1), 6);
         Due.is("its own start stays", x.platform(0, 3), 20);
+        PlatformsLeave left = Due.laid("n10;t0;t2;p0,0,0,0;p0,2,0,0;");
+        left.hold(1);
+        Due.is("at the train in step 0 alone", left.day(0, 1), 2);
         PlatformsLeave none = Due.laid("n24;p0,0,0,0;");
         Due.is("no train", none.day(0, 1), 0);
         Due.is("nobody waits", none.day(0, 0), 0);

@@ -6,6 +6,7 @@ public final class WaysTest {
         oneWay();
         changing();
         changingAtOnce();
+        five();
         oneCell();
         lastStep();
         wrongTrips();
@@ -51,6 +52,14 @@ public final class WaysTest {
         trip(x, 1, 2, 7, 1);
         PlatformsLeave none = Due.laid("n12;a5;t1;t4;t8;p0,5,0,5;p0,1,0,0;");
         trip(none, 0, 2, 8, 1);
+    }
+
+    private static void five() {
+        PlatformsLeave x = Due.laid("n20;t1;t4;t8;t12;t16;p0,0,0,0;p0,3,0,0;p0,7,0,0;p0,11,0,0;p0,15,0,0;");
+        trip(x, 0, 4, 16, 1);
+        trip(x, 4, 0, 6, 1);
+        trip(x, 3, 4, 5, 1);
+        trip(x, 4, 3, 17, 1);
     }
 
     private static void oneCell() {
