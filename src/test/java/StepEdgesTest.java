@@ -25,6 +25,7 @@ public final class StepEdgesTest {
         hangFrom31();
         hangTo60();
         hangNotHeld();
+        hangByThisLine();
         Due.end();
     }
 
@@ -307,6 +308,19 @@ public final class StepEdgesTest {
         for (int s = 31; s <= 59; s++) Due.is("stays in " + s, x.where(4, s, 0), x.where(4, 30, 0));
         Due.is("goes in 60", x.where(4, 59, 0) - x.where(4, 60, 0), 1);
         Due.is("hangs not", x.hang() >> 4 & 1, 0);
+    }
+
+    /** By the line as it is now, not by one that was asked for ahead of it, in which it went. */
+    private static void hangByThisLine() {
+        PlatformsLeave x = Due.laid("n9;p0,3,0,0;p0,4,0,0;p2,6,0,30;");
+        Due.is("all go", x.hang(), 0);
+        x.hold(1);
+        Due.is("one goes nowhere at all", x.hang() & 1, 1);
+        Due.is("another start helps not", x.start(0, 30), 0);
+        Due.is("still nowhere", x.hang() & 1, 1);
+        x.undo();
+        x.undo();
+        Due.is("all go again", x.hang(), 0);
     }
 
     /** "that are not HELD": of all, none, and bits by their numbers. */

@@ -6,6 +6,7 @@ public final class TextEdgesTest {
     public static void main(String[] args) {
         lettersAtMost();
         lettersOfAscii();
+        lettersOfItems();
         oneOrTwoFigures();
         partedByCommas();
         semicolonBehind();
@@ -73,6 +74,16 @@ public final class TextEdgesTest {
         int[] far = {'t' + 256, 't' + 65536, 't' - 256, Integer.MIN_VALUE + 't', Integer.MAX_VALUE, Integer.MIN_VALUE};
         for (int letter : far) Due.is("write " + letter, x.write(letter), BAD);
         Due.is("letters still", x.count(8), 95);
+    }
+
+    /** "each a letter, then numbers": of all letters n, t, p, a, w alone. */
+    private static void lettersOfItems() {
+        for (int letter = 32; letter < 127; letter++) {
+            boolean one = "ntaw".indexOf(letter) >= 0;
+            fault((char) letter + "9;", one ? NONE : 0);
+            fault("t3;" + (char) letter + "9;", one && letter != 'n' ? NONE : 3);
+            fault((char) letter + "0,0,0,0;", letter == 'p' ? NONE : 0);
+        }
     }
 
     /** "numbers (one or two figures)". */
